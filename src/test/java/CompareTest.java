@@ -5,6 +5,7 @@ public final class CompareTest {
     public static void main(String[] args) {
         signs();
         oneCrossing();
+        twoCrossings();
         aTieIsNoCrossing();
         wrongInputs();
         CHECK.finish("CompareTest");
@@ -34,6 +35,23 @@ public final class CompareTest {
         CHECK.due("none so late", desk.crossing(a, b, 5, Integer.MAX_VALUE), -1);
         CHECK.due("none with itself", desk.crossing(a, a, 5, 0), -1);
         CHECK.due("the part at hand stays", Check.partOf(desk), "0/1");
+    }
+
+    /**
+     * In a lot of 7 plan a takes 1, 1, 1, 4/35, 1/35, 0, 0, 0, plan b 1, 1, 11/21, 5/35, 0, 0, 0, 0.
+     */
+    private static void twoCrossings() {
+        SamplingDesk desk = new SamplingDesk();
+        int a = Check.planOf(desk, 3, 0, 3, 4, 2, 3);
+        int b = Check.planOf(desk, 5, 1, 2);
+        int[] want = {0, 0, 1, -1, 1, 0, 0, 0};
+        for (int d = 0; d <= 7; d++) {
+            CHECK.due("compare(a, b, 7, " + d + ")", desk.compare(a, b, 7, d), want[d]);
+        }
+        CHECK.due("the first one", desk.crossing(a, b, 7, 0), 2);
+        CHECK.due("the second one", desk.crossing(a, b, 7, 1), 3);
+        CHECK.due("the second one, other way round", desk.crossing(b, a, 7, 1), 3);
+        CHECK.due("no third one", desk.crossing(a, b, 7, 2), -1);
     }
 
     /** In a lot of 4 the signs are 0, -1, 0, 1, 0. */
