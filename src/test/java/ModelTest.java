@@ -37,13 +37,16 @@ public final class ModelTest {
 
     /** A run of kind 0 asks for all, 1 for plans and parts, 2 for suppliers and lots. */
     private int method(int i) {
-        if (i < 30 && random.nextInt(10) < 8) {
+        if (i < 40 && random.nextInt(10) < 8) {
             return random.nextInt(3) == 0 ? 0 : 1;
         }
-        if (kind == 1 || kind == 0 && random.nextBoolean()) {
-            return random.nextInt(13);
+        if (naive.count(1) > 0 && naive.count(2) == 0 && kind != 1) {
+            return 13;
         }
-        int[] many = {13, 14, 14, 15, 15, 15, 15, 15, 15, 15, 16, 17, 18, 19, 20, 21, 22, 23, 24};
+        if (kind == 1 || kind == 0 && random.nextBoolean()) {
+            return random.nextInt(4) == 0 ? random.nextInt(13) : 1 + random.nextInt(12);
+        }
+        int[] many = {13, 14, 14, 14, 15, 15, 15, 15, 15, 15, 15, 15, 16, 17, 18, 19, 20, 21, 22, 23, 24};
         return many[random.nextInt(many.length)];
     }
 
@@ -58,26 +61,45 @@ public final class ModelTest {
         return choices < 1 || choices > Integer.MAX_VALUE ? from : from + random.nextInt((int) choices);
     }
 
+    /** A CLOSED plan, if one is found soon. */
     private int anyPlan() {
-        return any(0, naive.count(0) - 1);
+        int plan = any(0, naive.count(0) - 1);
+        for (int i = 0; i < 9 && !isClosed(plan) && random.nextInt(20) != 0; i++) {
+            plan = any(0, naive.count(0) - 1);
+        }
+        return plan;
+    }
+
+    private boolean isClosed(int plan) {
+        for (int k = 0; k < 4; k++) {
+            if (naive.of(plan, k, 0) > 0 && naive.of(plan, k, 2) == naive.of(plan, k, 1) + 1) {
+                return true;
+            }
+        }
+        return false;
     }
 
     private int anySupplier() {
         return any(0, naive.count(2) - 1);
     }
 
+    /** An undecided lot, if one is found soon. */
     private int anyLot() {
         int lots = naive.count(3);
-        return random.nextInt(4) == 0 ? any(0, lots - 1) : any(Math.max(0, lots - 3), lots - 1);
+        int lot = any(0, lots - 1);
+        for (int i = 0; i < 9 && naive.about(lot, 0) != 0 && random.nextInt(20) != 0; i++) {
+            lot = any(Math.max(0, lots - 5), lots - 1);
+        }
+        return lot;
     }
 
     private int anySize() {
-        return random.nextBoolean() ? any(1, 60) : any(20, 40);
+        return random.nextBoolean() ? any(1, 60) : any(30, 60);
     }
 
     private int anyClass() {
-        int[] many = {0, 0, 0, 0, 0, 1, 1, 2, 2, 3};
-        return kind == 2 && random.nextInt(3) != 0 ? any(0, 0) : any(0, many[random.nextInt(10)]);
+        int[] many = {0, 0, 0, 0, 1, 1, 2, 2, 2, 3};
+        return random.nextInt(60) == 0 ? any(0, 3) : many[random.nextInt(kind == 2 ? 9 : 10)];
     }
 
     private void tell(String name, int... arguments) {
@@ -108,7 +130,7 @@ public final class ModelTest {
             int size = kind == 2 ? any(1, 3) : any(1, random.nextInt(4) == 0 ? 60 : 15);
             int accept = any(-1, random.nextInt(4) == 0 ? 60 : 3);
             int refuse = random.nextInt(3) == 0 ? any(accept + 1, 61) : accept + any(1, 4);
-            int plan = random.nextBoolean() ? a : naive.count(0) - 1;
+            int plan = random.nextInt(5) == 0 ? a : naive.count(0) - 1;
             tell("stage", plan, size, accept, refuse);
             return both(desk.stage(plan, size, accept, refuse), naive.stage(plan, size, accept, refuse));
         }
@@ -180,7 +202,7 @@ public final class ModelTest {
                 tell("supplier", normal, tight, reduced);
                 return both(desk.supplier(normal, tight, reduced), naive.supplier(normal, tight, reduced));
             case 14:
-                int size = any(1, 60);
+                int size = anySize();
                 tell("lot", supplier, size);
                 return both(desk.lot(supplier, size), naive.lot(supplier, size));
             case 15:
