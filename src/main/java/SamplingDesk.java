@@ -709,7 +709,7 @@ public final class SamplingDesk {
         }
 
         int planNow() {
-            return planOfRule[ruleNow];
+            return ruleNow >= NORMAL && ruleNow < RULES ? planOfRule[ruleNow] : NONE;
         }
 
         int latest(int k) {

@@ -2,12 +2,18 @@
 final class Check {
     private int wrong = 0;
     private int asked = 0;
+    private String words = "";
+
+    /** The document's words that the answers from here on are held against. */
+    void says(String sentence) {
+        words = "'" + sentence + "': ";
+    }
 
     void due(String call, long got, long want) {
         asked++;
         if (got != want) {
             wrong++;
-            System.out.println(call + " answered " + got + ", due is " + want);
+            System.out.println(words + call + " answered " + got + ", due is " + want);
         }
     }
 
@@ -15,7 +21,7 @@ final class Check {
         asked++;
         if (!got.equals(want)) {
             wrong++;
-            System.out.println(call + " answered " + got + ", due is " + want);
+            System.out.println(words + call + " answered " + got + ", due is " + want);
         }
     }
 
@@ -39,6 +45,15 @@ final class Check {
     static int see(SamplingDesk desk, int lot, int... classes) {
         int state = 0;
         for (int which : classes) {
+            state = desk.item(lot, which);
+        }
+        return state;
+    }
+
+    /** Sees as many items of one CLASS; what the lot is behind the last one. */
+    static int seeMany(SamplingDesk desk, int lot, int many, int which) {
+        int state = 0;
+        for (int i = 0; i < many; i++) {
             state = desk.item(lot, which);
         }
         return state;

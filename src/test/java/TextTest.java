@@ -28,7 +28,11 @@ public final class TextTest {
         face();
         noOtherVisibleMember();
         classesInside();
-        text();
+        typesOfFieldsAndMethods();
+        String code = codeWithoutComments();
+        text(code);
+        methodsThatMakeObjects(code);
+        new CallGraph(code).check(CHECK);
         CHECK.finish("TextTest");
     }
 
@@ -101,37 +105,66 @@ public final class TextTest {
         }
     }
 
-    private static void text() throws IOException {
+    /** Rule 3: numbers, own classes and rows of them; rows of rows of numbers alone. */
+    private static void typesOfFieldsAndMethods() {
+        for (Class<?> one : allClasses()) {
+            for (Field field : one.getDeclaredFields()) {
+                allowed(field.getName(), field.getType());
+            }
+            for (Method method : one.getDeclaredMethods()) {
+                allowed("answer of " + method.getName(), method.getReturnType());
+                for (Class<?> type : method.getParameterTypes()) {
+                    allowed("argument of " + method.getName(), type);
+                }
+            }
+        }
+    }
+
+    private static void allowed(String name, Class<?> type) {
+        Class<?> element = type;
+        int dimensions = 0;
+        while (element.isArray()) {
+            element = element.getComponentType();
+            dimensions++;
+        }
+        boolean own = element.getName().startsWith("SamplingDesk$");
+        boolean right = dimensions <= 1 ? own || element.isPrimitive() : dimensions == 2 && element.isPrimitive();
+        CHECK.due("type of " + name, right ? 1 : 0, 1);
+    }
+
+    private static String codeWithoutComments() throws IOException {
         String source = Files.readString(Path.of("src/main/java/SamplingDesk.java"));
-        String code = source.replaceAll("(?s)/\\*.*?\\*/", " ").replaceAll("//[^\n]*", " ");
+        CHECK.due("characters of the text", source.chars().filter(c -> c > 126).count(), 0);
+        return source.replaceAll("(?s)/\\*.*?\\*/", " ").replaceAll("//[^\n]*", " ");
+    }
+
+    /** Rule 12: besides constructors just the calls that keep a plan, a supplier or a lot make objects. */
+    private static void methodsThatMakeObjects(String code) {
+        Set<String> makers = new TreeSet<>();
+        for (CallGraph.Body body : CallGraph.bodiesOf(code)) {
+            if (Pattern.compile("\\bnew\\b").matcher(body.text).find()) {
+                makers.add(body.name);
+            }
+        }
+        CHECK.due("makers of objects", makers.toString(), "[SamplingDesk, lot, plan, supplier]");
+    }
+
+    private static void text(String code) {
         String[] ruledOut = {
             "\\bthrow\\b", "\\bthrows\\b", "\\btry\\b", "\\bcatch\\b", "\\bsynchronized\\b", "\\bassert\\b",
             "\\bimport\\b", "\\bpackage\\b", "->", "::", "\\bstatic\\s*\\{", "\\bSystem\\b", "Exact\\b",
             "\\bprotected\\b", "\\bvar\\b", "\\bhashCode\\b", "\\bequals\\b", "\\btoString\\b", "\"",
-            "\\bdouble\\b", "\\bfloat\\b", "\\bwhile\\b",
+            "\\bdouble\\b", "\\bfloat\\b", "\\bwhile\\b", "\\bnew\\s+\\w+\\s*\\([^)]*\\)\\s*\\{",
+            "\\bfor \\([^;]*;\\s*;",
         };
         for (String pattern : ruledOut) {
             Matcher found = Pattern.compile(pattern).matcher(code);
             CHECK.due("text: " + pattern, found.find() ? 1 : 0, 0);
         }
-        CHECK.due("methods stay short", longestMethod(code) <= 60 ? 1 : 0, 1);
-    }
-
-    /** Lines of the longest method; those of the class begin with 4 spaces, those inside with 8. */
-    private static int longestMethod(String code) {
-        String[] lines = code.split("\n");
         int longest = 0;
-        for (int i = 0; i < lines.length; i++) {
-            Matcher head = Pattern.compile("^( {4}| {8})\\S.*\\(.*\\) \\{$").matcher(lines[i]);
-            if (head.find()) {
-                int end = i;
-                while (end < lines.length && !lines[end].equals(head.group(1) + "}")) {
-                    end++;
-                }
-                longest = Math.max(longest, end - i + 1);
-            }
+        for (CallGraph.Body body : CallGraph.bodiesOf(code)) {
+            longest = Math.max(longest, body.text.split("\n").length);
         }
-        CHECK.due("methods were found", longest > 1 ? 1 : 0, 1);
-        return longest;
+        CHECK.due("methods stay short", longest > 1 && longest <= 60 ? 1 : 0, 1);
     }
 }
