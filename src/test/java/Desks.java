@@ -51,7 +51,7 @@ final class Desks {
         }
         desk.supplier(23, 23, 23);
         for (int i = 0; i < 60; i++) {
-            desk.lot(i == 59 ? 7 : i % 7, 60);
+            desk.lot(i == 59 ? 7 : i % 8, 60);
         }
         for (int i = 0; i < 59; i += 3) {
             desk.item(i, 3);
@@ -61,6 +61,18 @@ final class Desks {
             desk.item(59, i % 3);
         }
         desk.part(0, 60, 59, 2);
+        return desk;
+    }
+
+    /** 8 suppliers, each with plans of its own, and no lots. */
+    static SamplingDesk allSuppliers() {
+        SamplingDesk desk = new SamplingDesk();
+        for (int i = 0; i < 24; i++) {
+            Check.planOf(desk, 1 + i, 0, 1);
+        }
+        for (int i = 0; i < 8; i++) {
+            desk.supplier(3 * i, 3 * i + 1, 3 * i + 2);
+        }
         return desk;
     }
 

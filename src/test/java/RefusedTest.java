@@ -33,6 +33,9 @@ public final class RefusedTest {
         ruleAndRun();
         cost();
         scoreAndCount();
+        allIsWrong(NEW);
+        allIsWrong(SOME);
+        allIsWrong(FULL);
         theSnapshotTells();
         CHECK.finish("RefusedTest");
     }
@@ -62,6 +65,7 @@ public final class RefusedTest {
         FULL.refused("plan()", x -> x.plan());
         CHECK.says("or there are 8");
         FULL.refused("supplier(0, 0, 0)", x -> x.supplier(0, 0, 0));
+        new Edge(CHECK, Desks::allSuppliers).refused("supplier(9, 9, 9)", x -> x.supplier(9, 9, 9));
         CHECK.says("or there are 60");
         FULL.refused("lot(0, 60)", x -> x.lot(0, 60));
         CHECK.says("PLANS are numbered from 0, 24 at most");
@@ -319,6 +323,35 @@ public final class RefusedTest {
         CHECK.says("-2 for another what");
         SOME.outside("count", 0, 5, (x, what) -> x.count(what));
         NEW.outside("count", 0, 5, (x, what) -> x.count(what));
+    }
+
+    /** Several reasons at once are one -2. */
+    private static void allIsWrong(Edge desk) {
+        CHECK.says("What is wrong is asked in the order in which it is told");
+        int[] all = {LEAST, LEAST + 1, -3, -2, -1, 1001, MOST - 1, MOST};
+        for (int a : all) {
+            desk.refused("stage, all " + a, x -> x.stage(a, a, a, a));
+            desk.refused("of, all " + a, x -> x.of(a, a, a));
+            desk.refused("part, all " + a, x -> x.part(a, a, a, a));
+            desk.refused("rounded " + a, x -> x.rounded(a));
+            desk.refused("compare, all " + a, x -> x.compare(a, a, a, a));
+            desk.refused("crossing, all " + a, x -> x.crossing(a, a, a, a));
+            desk.refused("risk, all " + a, x -> x.risk(a, a, a, a));
+            desk.refused("search " + a, x -> x.search(a));
+            desk.refused("minimal, all " + a, x -> x.minimal(a, a));
+            desk.refused("supplier, all " + a, x -> x.supplier(a, a, a));
+            desk.refused("lot, all " + a, x -> x.lot(a, a));
+            desk.refused("item, all " + a, x -> x.item(a, a));
+            desk.refused("undo " + a, x -> x.undo(a));
+            desk.refused("correct, all " + a, x -> x.correct(a, a, a));
+            desk.refused("about, all " + a, x -> x.about(a, a));
+            desk.refused("needed " + a, x -> x.needed(a));
+            desk.refused("rule " + a, x -> x.rule(a));
+            desk.refused("run, all " + a, x -> x.run(a, a));
+            desk.refused("cost, all " + a, x -> x.cost(a, a));
+            desk.refused("score, all " + a, x -> x.score(a, a));
+            desk.refused("count " + a, x -> x.count(a));
+        }
     }
 
     /** What stands behind a call proves nothing unless each call that changes something is seen. */

@@ -29,6 +29,7 @@ final class Snapshot {
             all.plans(all.page("plans"), from, from + 12);
         }
         all.suppliers(all.page("suppliers"));
+        all.plansOfSuppliers(all.page("plans of suppliers"));
         for (int from = 0; from < LOTS; from += 20) {
             all.lots(all.page("lots"), from, from + 20);
         }
@@ -92,6 +93,18 @@ final class Snapshot {
             for (int k = 1; latest > 0; k++) {
                 tell(latest);
                 latest = desk.run(supplier, k);
+            }
+        }
+    }
+
+    /** They show in new lots, those of TIGHT behind two refused ones. */
+    private void plansOfSuppliers(SamplingDesk desk) {
+        for (int supplier = 0; supplier < SUPPLIERS; supplier++) {
+            for (int i = 0; i < 3; i++) {
+                int lot = desk.lot(supplier, 60);
+                tell(lot);
+                tell(desk.about(lot, 4));
+                tell(desk.item(lot, 3));
             }
         }
     }
