@@ -1,5 +1,4 @@
 import java.io.IOException;
-import java.lang.reflect.Constructor;
 import java.lang.reflect.Field;
 import java.lang.reflect.Method;
 import java.lang.reflect.Modifier;
@@ -12,21 +11,12 @@ import java.util.Set;
 import java.util.TreeSet;
 import java.util.regex.Matcher;
 import java.util.regex.Pattern;
-import java.util.stream.Collectors;
 
 /** The rules of LANGUAGE.md that can be seen from the text or from the compiled class. */
 public final class TextTest {
     private static final Check CHECK = new Check();
-    private static final String FACE = "plan() stage(int,int,int,int) of(int,int,int) part(int,int,int,int) up() down() "
-            + "rounded(int) compare(int,int,int,int) crossing(int,int,int,int) risk(int,int,int,int) forget() "
-            + "search(int) minimal(int,int) supplier(int,int,int) lot(int,int) item(int,int) undo(int) "
-            + "correct(int,int,int) about(int,int) needed(int) rule(int) run(int,int) cost(int,int) score(int,int) "
-            + "count(int)";
-    private static final Set<String> LONGS = Set.of("up", "down", "rounded", "score");
 
     public static void main(String[] args) throws IOException {
-        face();
-        noOtherVisibleMember();
         classesInside();
         typesOfFieldsAndMethods();
         String code = codeWithoutComments();
@@ -42,52 +32,10 @@ public final class TextTest {
         return all;
     }
 
-    private static void face() {
-        int modifiers = SamplingDesk.class.getModifiers();
-        CHECK.due("public and final", Modifier.isPublic(modifiers) && Modifier.isFinal(modifiers) ? 1 : 0, 1);
-        Set<String> got = new TreeSet<>();
-        for (Method method : SamplingDesk.class.getDeclaredMethods()) {
-            if (Modifier.isPublic(method.getModifiers())) {
-                String types = Arrays.stream(method.getParameterTypes()).map(Class::getName)
-                        .collect(Collectors.joining(","));
-                got.add(method.getName() + "(" + types + ")");
-                String answers = LONGS.contains(method.getName()) ? "long" : "int";
-                CHECK.due("type of " + method.getName(), method.getReturnType().getName(), answers);
-            }
-        }
-        CHECK.due("face", got.toString(), new TreeSet<>(Arrays.asList(FACE.split(" "))).toString());
-    }
-
-    private static void noOtherVisibleMember() {
-        Set<String> faceNames = new TreeSet<>();
-        for (String method : FACE.split(" ")) {
-            faceNames.add(method.substring(0, method.indexOf('(')));
-        }
-        for (Method method : SamplingDesk.class.getDeclaredMethods()) {
-            boolean visible = !Modifier.isPrivate(method.getModifiers());
-            CHECK.due(method.getName(), faceNames.contains(method.getName()) ? 1 : 0, visible ? 1 : 0);
-        }
-        for (Field field : SamplingDesk.class.getDeclaredFields()) {
-            CHECK.due(field.getName() + " is private", Modifier.isPrivate(field.getModifiers()) ? 1 : 0, 1);
-        }
-        Constructor<?>[] constructors = SamplingDesk.class.getDeclaredConstructors();
-        CHECK.due("one constructor", constructors.length, 1);
-        CHECK.due("its arguments", constructors[0].getParameterCount(), 0);
-        for (Class<?> inside : SamplingDesk.class.getDeclaredClasses()) {
-            for (Method method : inside.getDeclaredMethods()) {
-                CHECK.due(method.getName() + " is no name of the face",
-                        faceNames.contains(method.getName()) ? 1 : 0, 0);
-            }
-        }
-    }
-
     private static void classesInside() {
         List<Class<?>> all = allClasses();
         CHECK.due("at most twelve classes", all.size() <= 12 ? 1 : 0, 1);
         for (Class<?> one : all) {
-            if (one != SamplingDesk.class) {
-                CHECK.due(one.getName() + " is static", Modifier.isStatic(one.getModifiers()) ? 1 : 0, 1);
-            }
             int fields = 0;
             for (Field field : one.getDeclaredFields()) {
                 if (Modifier.isStatic(field.getModifiers())) {
